@@ -57,51 +57,14 @@ public final class PromisesTest {
         Due.finish();
     }
 
-    private static long packed(String characters) {
-        long number = 0;
-        for (int index = 0; index < characters.length(); index++) {
-            number = number << 8 | characters.charAt(index);
-        }
-        return number;
-    }
-
-    private static void write(SealedDeals x, String text) {
-        for (int start = 0; start < text.length(); start += 8) {
-            int end = Math.min(start + 8, text.length());
-            Due.is("put of " + text.substring(start, end), x.count(12) + end - start, x.put(packed(text.substring(start, end))));
-        }
-    }
-
-    private static void packIs(String when, int[] cards, SealedDeals x) {
-        for (int place = 0; place < 52; place++) {
-            Due.is(when + ": card(" + place + ")", cards[place], x.card(place));
-        }
-    }
-
-    private static int[] inOrder(int top) {
-        int[] cards = new int[52];
-        for (int place = 0; place < 52; place++) {
-            cards[place] = (top + place) % 52;
-        }
-        return cards;
-    }
-
     /** A change that fails is no change: nothing is recorded. */
     private static void unchanged(String when, int changes, SealedDeals x) {
         Due.is(when + ": count(13)", changes, x.count(13));
     }
 
-    /** Every shuffle gets a certificate, from this x. */
-    private static SealedDeals withAllCertified(int seed) {
-        SealedDeals x = new SealedDeals();
-        x.set(SealedDeals.KEEPS, 51);
-        x.seed(seed);
-        return x;
-    }
-
     /** The board 0 is dealt from a pack in order: the hand of each card is its number left over by 4. */
     private static SealedDeals withBoardInOrder() {
-        SealedDeals x = withAllCertified(1);
+        SealedDeals x = Given.withAllCertified(1);
         for (int card = 0; card < 52; card++) {
             x.bend(card);
         }
@@ -113,14 +76,7 @@ public final class PromisesTest {
 
     /** The board 0 has clubs, diamonds, hearts, spades 5 3 2 3, 5 4 4 0, 2 2 4 5 and 1 4 3 5. */
     private static SealedDeals withWildBoard() {
-        return dealtFrom(551);
-    }
-
-    private static SealedDeals dealtFrom(int seed) {
-        SealedDeals x = withAllCertified(seed);
-        x.shuffle();
-        x.deal(0);
-        return x;
+        return Given.dealtFrom(551);
     }
 
     private static void newObject() {
@@ -129,7 +85,7 @@ public final class PromisesTest {
         for (int what = 0; what < 14; what++) {
             Due.is("new: count(" + what + ")", counts[what], x.count(what));
         }
-        packIs("new", inOrder(0), x);
+        Given.packIs("new", Given.inOrder(0), x);
         for (int board = 0; board < 4; board++) {
             Due.is("new: board(" + board + ", 0)", 0, x.board(board, 0));
             Due.is("new: board(" + board + ", 1)", 0, x.board(board, 1));
@@ -140,7 +96,7 @@ public final class PromisesTest {
         changed.shuffle();
         changed.bend(3);
         changed.set(1, 9);
-        packIs("another one has changed", inOrder(0), x);
+        Given.packIs("another one has changed", Given.inOrder(0), x);
         Due.is("another one has changed: count(3)", 0, x.count(3));
         Due.is("another one has changed: count(1)", 3, new SealedDeals().count(1));
     }
@@ -206,7 +162,7 @@ public final class PromisesTest {
         x.bend(51);
         x.set(1, 1);
         Due.is("shuffle() with bent cards", 24, x.shuffle());
-        packIs("bent", RIFFLED_BENT, x);
+        Given.packIs("bent", RIFFLED_BENT, x);
         Due.is("count(2)", 2054802212, x.count(2));
         SealedDeals all = new SealedDeals();
         for (int card = 0; card < 52; card++) {
@@ -214,7 +170,7 @@ public final class PromisesTest {
         }
         all.set(1, 1);
         Due.is("shuffle() with all bent", 50, all.shuffle());
-        packIs("all bent", inOrder(27), all);
+        Given.packIs("all bent", Given.inOrder(27), all);
         Due.is("two numbers are drawn: count(2)", 377401575, all.count(2));
         Due.is("ifRiffled(1, 1)", 50, all.ifRiffled(1, 1));
     }
@@ -222,14 +178,14 @@ public final class PromisesTest {
     private static void read() {
         SealedDeals x = new SealedDeals();
         x.bend(51);
-        write(x, "c2,sa,hk,d9,c2");
+        Given.write(x, "c2,sa,hk,d9,c2");
         Due.is("read()", 2, x.read());
         Due.is("the pad is empty: count(12)", 0, x.count(12));
         unchanged("bend and read", 2, x);
         Due.is("the king of hearts: bend(37)", 1, x.bend(37));
         Due.is("the nine of diamonds: bend(20)", 0, x.bend(20));
         Due.is("read() of an empty pad", BAD_TEXT, x.read());
-        write(x, "c2,");
+        Given.write(x, "c2,");
         Due.is("read() of a text that ends early", BAD_TEXT, x.read());
         Due.is("the pad stays: count(12)", 3, x.count(12));
         Due.is("nothing is bent: count(3)", 0, x.count(3));
@@ -240,14 +196,14 @@ public final class PromisesTest {
         Due.is("undo of read: count(3)", 1, x.count(3));
         x.set(0, 51);
         x.shuffle();
-        write(x, "hq");
+        Given.write(x, "hq");
         x.read();
         Due.is("a certificate stays: count(4)", 1, x.count(4));
         String ranks = "23456789tjqka";
         String suits = "cdhs";
         SealedDeals each = new SealedDeals();
         for (int card = 0; card < 52; card++) {
-            write(each, "" + suits.charAt(card / 13) + ranks.charAt(card % 13));
+            Given.write(each, "" + suits.charAt(card / 13) + ranks.charAt(card % 13));
             each.read();
             Due.is("the card alone is bent: worstBend()", card, each.worstBend());
             each.bend(card);
@@ -260,7 +216,7 @@ public final class PromisesTest {
         for (int card = 1; card < 20; card++) {
             text.append(",c").append("23456789tjqka".charAt(card % 13));
         }
-        write(x, text.toString());
+        Given.write(x, text.toString());
         Due.is("count(12)", 59, x.count(12));
         Due.is("read() of 20 cards", 8, x.read());
     }
@@ -268,17 +224,17 @@ public final class PromisesTest {
     private static void shuffle() {
         SealedDeals x = new SealedDeals();
         Due.is("shuffle()", 4, x.shuffle());
-        packIs("three riffles", RIFFLED_THRICE, x);
+        Given.packIs("three riffles", RIFFLED_THRICE, x);
         Due.is("count(2)", 1589704933, x.count(2));
         unchanged("shuffle", 1, x);
         SealedDeals one = new SealedDeals();
         one.set(1, 1);
         Due.is("shuffle() of one riffle", 21, one.shuffle());
-        packIs("one riffle", RIFFLED_ONCE, one);
+        Given.packIs("one riffle", RIFFLED_ONCE, one);
         Due.is("one riffle: count(2)", 60335757, one.count(2));
         one.shuffle();
         one.shuffle();
-        packIs("three shuffles of one riffle", RIFFLED_THRICE, one);
+        Given.packIs("three shuffles of one riffle", RIFFLED_THRICE, one);
         Due.is("three shuffles of one riffle: count(6)", 3, one.count(6));
         SealedDeals nine = new SealedDeals();
         nine.set(1, 9);
@@ -315,16 +271,16 @@ public final class PromisesTest {
     private static void cut() {
         SealedDeals x = new SealedDeals();
         Due.is("cut(1)", 1, x.cut(1));
-        packIs("cut(1)", inOrder(1), x);
+        Given.packIs("cut(1)", Given.inOrder(1), x);
         Due.is("cut(51)", 0, x.cut(51));
-        packIs("cut(51)", inOrder(0), x);
+        Given.packIs("cut(51)", Given.inOrder(0), x);
         Due.is("cut(30)", 30, x.cut(30));
-        packIs("cut(30)", inOrder(30), x);
+        Given.packIs("cut(30)", Given.inOrder(30), x);
         Due.is("cut(0)", BAD_VALUE, x.cut(0));
         Due.is("cut(52)", BAD_VALUE, x.cut(52));
         Due.is("cut(-1)", BAD_VALUE, x.cut(-1));
         Due.is("cut(MAX)", BAD_VALUE, x.cut(Integer.MAX_VALUE));
-        packIs("bad cuts", inOrder(30), x);
+        Given.packIs("bad cuts", Given.inOrder(30), x);
         unchanged("bad cuts", 3, x);
         x.shuffle();
         x.cut(5);
@@ -342,7 +298,7 @@ public final class PromisesTest {
         x.shuffle();
         Due.is("one card lies at its place: placesOff", 51, placesOff(x));
         Due.is("sort() behind a riffle", 51, x.sort());
-        packIs("sort", inOrder(0), x);
+        Given.packIs("sort", Given.inOrder(0), x);
         x.set(0, 51);
         x.shuffle();
         Due.is("count(4)", 1, x.count(4));
@@ -368,7 +324,7 @@ public final class PromisesTest {
             points[place % 4] += Math.max(0, RIFFLED_THRICE[place] % 13 - 8);
         }
         Due.is("deal(3)", points[0], x.deal(3));
-        packIs("the pack lies as it did", RIFFLED_THRICE, x);
+        Given.packIs("the pack lies as it did", RIFFLED_THRICE, x);
         for (int place = 0; place < 52; place++) {
             Due.is("holder of the card at " + place, place % 4, x.holder(3, RIFFLED_THRICE[place]));
         }
@@ -413,7 +369,7 @@ public final class PromisesTest {
     }
 
     private static void seal() {
-        SealedDeals x = withAllCertified(7);
+        SealedDeals x = Given.withAllCertified(7);
         Due.is("seal(0) without cards", NOT_POSSIBLE, x.seal(0));
         Due.is("seal(-1)", NO_SUCH, x.seal(-1));
         Due.is("seal(4)", NO_SUCH, x.seal(4));
@@ -438,7 +394,7 @@ public final class PromisesTest {
     }
 
     private static void open() {
-        SealedDeals x = withAllCertified(7);
+        SealedDeals x = Given.withAllCertified(7);
         Due.is("open(0) without cards", NOT_POSSIBLE, x.open(0));
         Due.is("open(4)", NO_SUCH, x.open(4));
         Due.is("open(-1)", NO_SUCH, x.open(-1));
@@ -531,9 +487,9 @@ public final class PromisesTest {
         handIs(wild, 1, 5, 4, 4, 0, 6, 0, NONE);
         handIs(wild, 2, 2, 2, 4, 5, 14, 0, highest[2]);
         handIs(wild, 3, 1, 4, 3, 5, 15, 0, highest[3]);
-        Due.is("the two of spades alone: hand(0, 0, 6)", 0, dealtFrom(26).hand(0, 0, 6));
-        Due.is("the ace of hearts, but no spade: holder(0, 38)", 0, dealtFrom(3).holder(0, 38));
-        Due.is("the ace of hearts, but no spade: hand(0, 0, 6)", NONE, dealtFrom(3).hand(0, 0, 6));
+        Due.is("the two of spades alone: hand(0, 0, 6)", 0, Given.dealtFrom(26).hand(0, 0, 6));
+        Due.is("the ace of hearts, but no spade: holder(0, 38)", 0, Given.dealtFrom(3).holder(0, 38));
+        Due.is("the ace of hearts, but no spade: hand(0, 0, 6)", NONE, Given.dealtFrom(3).hand(0, 0, 6));
     }
 
     private static void handErrors() {
@@ -559,7 +515,7 @@ public final class PromisesTest {
         SealedDeals wild = withWildBoard();
         Due.is("board(0, 3)", 3, wild.board(0, 3));
         Due.is("board(0, 4)", 1, wild.board(0, 4));
-        SealedDeals tied = withAllCertified(24);
+        SealedDeals tied = Given.withAllCertified(24);
         tied.shuffle();
         Due.is("deal(1)", 10, tied.deal(1));
         Due.is("hands 1 and 3 have 13 points: board(1, 3)", 1, tied.board(1, 3));
@@ -598,7 +554,7 @@ public final class PromisesTest {
         x.seal(2);
         x.bend(9);
         x.bend(10);
-        x.put(packed("c2"));
+        x.put(Given.packed("c2"));
         int[] counts = {21, 1, 60335757, 2, 0, 21, 1, 1, 1, 0, 1, 21, 2, 4};
         for (int what = 0; what < 14; what++) {
             Due.is("count(" + what + ")", counts[what], x.count(what));
@@ -615,7 +571,7 @@ public final class PromisesTest {
     }
 
     private static void alike() {
-        SealedDeals x = withAllCertified(1);
+        SealedDeals x = Given.withAllCertified(1);
         Due.is("alike(0, 0) without cards", NONE, x.alike(0, 0));
         Due.is("alike(0, 4) without cards", NO_SUCH, x.alike(0, 4));
         Due.is("alike(-1, 0)", NO_SUCH, x.alike(-1, 0));
@@ -662,7 +618,7 @@ public final class PromisesTest {
         Due.is("ifRiffled(1, -1)", BAD_VALUE, x.ifRiffled(1, -1));
         Due.is("ifRiffled(1, 2)", BAD_VALUE, x.ifRiffled(1, 2));
         Due.is("ifRiffled(MAX, MIN)", BAD_VALUE, x.ifRiffled(Integer.MAX_VALUE, Integer.MIN_VALUE));
-        packIs("nothing changes", inOrder(0), x);
+        Given.packIs("nothing changes", Given.inOrder(0), x);
         Due.is("nothing changes: count(2)", 1, x.count(2));
         Due.is("nothing changes: count(5)", NONE, x.count(5));
         unchanged("what if", 0, x);
@@ -693,7 +649,7 @@ public final class PromisesTest {
         Due.is("all bent, at most 49: needed()", NONE, x.needed());
         x.set(0, 50);
         Due.is("all bent, at most 50: needed()", 1, x.needed());
-        packIs("nothing changes", inOrder(0), x);
+        Given.packIs("nothing changes", Given.inOrder(0), x);
     }
 
     private static void worstBend() {
@@ -709,7 +665,7 @@ public final class PromisesTest {
         Due.is("nothing changes: count(2)", 1, x.count(2));
         unchanged("what if", 3, x);
         Due.is("all are bent as before: ifRiffled(1, 0)", 24, x.ifRiffled(1, 0));
-        packIs("nothing changes", inOrder(0), x);
+        Given.packIs("nothing changes", Given.inOrder(0), x);
         SealedDeals other = new SealedDeals();
         int[] cards = {12, 50, 1, 2, 3};
         for (int card : cards) {
@@ -732,8 +688,8 @@ public final class PromisesTest {
     private static void put() {
         SealedDeals x = new SealedDeals();
         Due.is("put of one", 1, x.put('c'));
-        Due.is("put of two", 3, x.put(packed("2,")));
-        Due.is("put of eight", 11, x.put(packed("d3,h4,s5")));
+        Due.is("put of two", 3, x.put(Given.packed("2,")));
+        Due.is("put of eight", 11, x.put(Given.packed("d3,h4,s5")));
         Due.is("the first one is above: fault()", NONE, x.fault());
         Due.is("put(33)", 12, x.put(33));
         Due.is("put(126)", 13, x.put(126));
@@ -753,13 +709,13 @@ public final class PromisesTest {
         Due.is("a gap", BAD_VALUE, x.put((long) 'c' << 16 | '2'));
         Due.is("a high bit above a gap", BAD_VALUE, x.put(1L << 63 | '2'));
         Due.is("a space in front", BAD_VALUE, x.put(32L << 8 | '2'));
-        Due.is("a code over 126 as the eighth", BAD_VALUE, x.put(packed("c2,d3,h4") | 1L << 63));
+        Due.is("a code over 126 as the eighth", BAD_VALUE, x.put(Given.packed("c2,d3,h4") | 1L << 63));
         Due.is("count(12)", 0, x.count(12));
-        write(x, "c2,d3,h4,s5,c6,d7,h8,s9,ct,dj,hq,sk,ca,d2,h3,s4,c5,d6,");
-        Due.is("60 are not passed: put of seven", TOO_MANY, x.put(packed("h7,s8,c")));
-        Due.is("the value comes first", BAD_VALUE, x.put(1L << 63 | packed("h7,s8,c")));
+        Given.write(x, "c2,d3,h4,s5,c6,d7,h8,s9,ct,dj,hq,sk,ca,d2,h3,s4,c5,d6,");
+        Due.is("60 are not passed: put of seven", TOO_MANY, x.put(Given.packed("h7,s8,c")));
+        Due.is("the value comes first", BAD_VALUE, x.put(1L << 63 | Given.packed("h7,s8,c")));
         Due.is("count(12)", 54, x.count(12));
-        Due.is("put of six", 60, x.put(packed("h7,s8,")));
+        Due.is("put of six", 60, x.put(Given.packed("h7,s8,")));
         Due.is("put of one more", TOO_MANY, x.put('c'));
         Due.is("put(0)", BAD_VALUE, x.put(0));
         Due.is("fault() at 60", 60, x.fault());
@@ -769,19 +725,19 @@ public final class PromisesTest {
     private static void wipe() {
         SealedDeals x = new SealedDeals();
         Due.is("wipe()", 0, x.wipe());
-        write(x, "c2,d");
+        Given.write(x, "c2,d");
         Due.is("wipe()", 4, x.wipe());
         Due.is("count(12)", 0, x.count(12));
         Due.is("wipe() again", 0, x.wipe());
         unchanged("wipe is no change", 0, x);
-        write(x, "s9");
+        Given.write(x, "s9");
         Due.is("the new text counts: read()", 1, x.read());
         Due.is("worstBend()", 46, x.worstBend());
     }
 
     private static void faultIs(String text, int fault) {
         SealedDeals x = new SealedDeals();
-        write(x, text);
+        Given.write(x, text);
         Due.is("fault() of " + text, fault, x.fault());
         Due.is("the pad stays", text.length(), x.count(12));
         if (fault == NONE) {
@@ -840,7 +796,7 @@ public final class PromisesTest {
     }
 
     private static void undoTakesBackAll() {
-        SealedDeals x = withAllCertified(1);
+        SealedDeals x = Given.withAllCertified(1);
         x.shuffle();
         x.deal(1);
         Due.is("board(1, 0)", 1, x.board(1, 0));
@@ -849,7 +805,7 @@ public final class PromisesTest {
         Due.is("deal: count(8)", 0, x.count(8));
         Due.is("deal: board(1, 0)", 0, x.board(1, 0));
         x.undo();
-        packIs("shuffle", inOrder(0), x);
+        Given.packIs("shuffle", Given.inOrder(0), x);
         Due.is("shuffle: count(2)", 1, x.count(2));
         Due.is("shuffle: count(4)", 0, x.count(4));
         Due.is("shuffle: count(5)", NONE, x.count(5));
@@ -861,20 +817,20 @@ public final class PromisesTest {
         x.bend(4);
         x.cut(3);
         x.undo();
-        packIs("cut", inOrder(0), x);
+        Given.packIs("cut", Given.inOrder(0), x);
         x.undo();
         Due.is("bend: count(3)", 0, x.count(3));
         x.cut(3);
         x.sort();
         x.undo();
-        packIs("sort", inOrder(3), x);
+        Given.packIs("sort", Given.inOrder(3), x);
         x.set(1, 9);
         x.undo();
         Due.is("set: count(1)", 3, x.count(1));
     }
 
     private static void undoGivesTheHandsBack() {
-        SealedDeals x = dealtFrom(551);
+        SealedDeals x = Given.dealtFrom(551);
         int[] holders = new int[52];
         for (int card = 0; card < 52; card++) {
             holders[card] = x.holder(0, card);
@@ -896,9 +852,9 @@ public final class PromisesTest {
 
     private static void undoLeavesThePadAndTheSlots() {
         SealedDeals x = new SealedDeals();
-        write(x, "c2");
+        Given.write(x, "c2");
         x.read();
-        write(x, "d3,");
+        Given.write(x, "d3,");
         x.seed(5);
         x.save(0);
         Due.is("undo()", 1, x.undo());
@@ -913,7 +869,7 @@ public final class PromisesTest {
     }
 
     private static void save() {
-        SealedDeals x = withAllCertified(3);
+        SealedDeals x = Given.withAllCertified(3);
         Due.is("save(0)", 0, x.save(0));
         x.shuffle();
         x.deal(3);
@@ -934,7 +890,7 @@ public final class PromisesTest {
     }
 
     private static void restore() {
-        SealedDeals x = withAllCertified(3);
+        SealedDeals x = Given.withAllCertified(3);
         Due.is("restore(0) of nothing", NOT_POSSIBLE, x.restore(0));
         Due.is("restore(-1)", BAD_VALUE, x.restore(-1));
         Due.is("restore(2)", BAD_VALUE, x.restore(2));
@@ -963,12 +919,12 @@ public final class PromisesTest {
         x.set(0, 2);
         x.set(1, 2);
         x.seed(99);
-        write(x, "c2");
+        Given.write(x, "c2");
         Due.is("restore(1)", 1, x.restore(1));
         for (int what = 0; what < 12; what++) {
             Due.is("restored: count(" + what + ")", counts[what], x.count(what));
         }
-        packIs("restored", pack, x);
+        Given.packIs("restored", pack, x);
         Due.is("the pad stays: count(12)", 2, x.count(12));
         Due.is("restored: board(2, 1)", 0, x.board(2, 1));
         Due.is("restored: board(2, 2)", 1, x.board(2, 2));
