@@ -157,6 +157,14 @@ public final class RefusedCallsTest {
             return x;
         });
         faulty.refused(5, "read(), the text ends too early", BAD_TEXT, x -> x.read());
+        RefusedCallsTest undone = new RefusedCallsTest("with all four changes taken back", () -> {
+            SealedDeals x = Scenes.busy();
+            for (int change = 0; change < 4; change++) {
+                x.undo();
+            }
+            return x;
+        });
+        undone.refused(25, "undo(), the history is empty", NOT_POSSIBLE, x -> x.undo());
     }
 
     private void refusedWhenFull() {
