@@ -684,11 +684,9 @@ public final class SealedDeals {
             int lower = split;
             boolean fromUpper = false;
             boolean sticks = false;
-            for (int place = 0; place < CARDS; place++) {
-                if (lower >= CARDS) {
-                    fromUpper = true;
-                } else if (upper >= split) {
-                    fromUpper = false;
+            for (int place = 0; place < CARDS && (upper < split || lower < CARDS); place++) {
+                if (upper >= split || lower >= CARDS) {
+                    fromUpper = upper < split;
                 } else if (!sticks) {
                     fromUpper = drawBelow(split - upper + CARDS - lower) < split - upper;
                 }

@@ -5,6 +5,8 @@ import java.lang.reflect.Method;
 import java.lang.reflect.Modifier;
 import java.nio.file.Files;
 import java.nio.file.Path;
+import java.util.ArrayList;
+import java.util.List;
 import java.util.Set;
 import java.util.TreeSet;
 import java.util.regex.Matcher;
@@ -20,12 +22,24 @@ public final class FaceTest {
         "worstBend()", "put(long)", "wipe()", "fault()", "undo()", "save(int)", "restore(int)"};
     private static final String[] LEFT_OUT = {"throw", "throws", "try", "catch", "finally", "synchronized", "assert",
         "import", "package", "volatile", "native", "Exact", "->", "::", "@", "\" +", "+ \"", "System.out", "var "};
+    /** The library that rule 4 leaves, as far as the class uses it, and its own classes. */
+    private static final Set<String> TYPES = Set.of("SealedDeals", "Table", "Board", "Trial", "Pad", "String", "System",
+        "Math");
+    private static final String[] LIBRARY = {"System.arraycopy", "Math.max"};
+    private static final String[] SECTIONS = {"changes: set seed bend read shuffle cut sort deal seal open",
+        "what there is; nothing changes: card placeOf holder hand board count alike",
+        "what if; nothing changes: ifRiffled needed worstBend", "texts: put wipe fault",
+        "undo, saving: undo save restore"};
     private static final int LONGEST_METHOD = 60;
 
     public static void main(String[] args) throws IOException, IllegalAccessException {
         face();
         insideClasses();
-        String code = withoutComments(Files.readString(Path.of("src/main/java/SealedDeals.java")));
+        String source = Files.readString(Path.of("src/main/java/SealedDeals.java"));
+        linesOfTheDocument(source);
+        sections(source);
+        String code = withoutComments(source);
+        library(code);
         for (String word : LEFT_OUT) {
             String sought = Character.isLetter(word.charAt(0)) ? "\\b" + Pattern.quote(word) : Pattern.quote(word);
             sought += Character.isLetter(word.charAt(word.length() - 1)) ? "\\b" : "";
@@ -58,6 +72,42 @@ public final class FaceTest {
         Due.is("its parameters", 0, constructors[0].getParameterCount());
         Due.holds("public constructor", Modifier.isPublic(constructors[0].getModifiers()));
         Due.holds("public final class", SealedDeals.class.getModifiers() == (Modifier.PUBLIC | Modifier.FINAL));
+    }
+
+    /** Each line of the document's face stands in the file, with its parameters' names. */
+    private static void linesOfTheDocument(String source) throws IOException {
+        String face = Files.readString(Path.of("../shared/DOC.md")).split("```java\n")[1].split("```")[0];
+        int lines = 0;
+        for (String line : face.lines().filter(one -> one.startsWith("    ")).toList()) {
+            String written = line.endsWith(");") ? line.replace(");", ") {") : line;
+            Due.holds("The public face: " + line.strip(), source.contains("\n" + written + "\n"));
+            lines++;
+        }
+        Due.is("lines of the public face", 2 + 1 + METHODS.length, lines);
+    }
+
+    private static void sections(String source) {
+        List<String> found = new ArrayList<>();
+        Matcher lines = Pattern.compile("(?m)^    (?:// ---- (.+)|public int (\\w+)\\(.*)$").matcher(source);
+        while (lines.find()) {
+            if (lines.group(1) != null) {
+                found.add(lines.group(1) + ":");
+            } else if (!found.isEmpty()) {
+                found.add(found.remove(found.size() - 1) + " " + lines.group(2));
+            }
+        }
+        Due.holds("Terms, what the interface says ahead of the calls: " + found, found.equals(List.of(SECTIONS)));
+    }
+
+    private static void library(String code) {
+        Matcher types = Pattern.compile("\\b[A-Z]\\w*[a-z]\\w*\\b").matcher(code);
+        while (types.find()) {
+            Due.holds("LANGUAGE.md 3 and 4: " + types.group(), TYPES.contains(types.group()));
+        }
+        Matcher calls = Pattern.compile("\\b(System|Math)\\.\\w+").matcher(code);
+        while (calls.find()) {
+            Due.holds("LANGUAGE.md 4: " + calls.group(), List.of(LIBRARY).contains(calls.group()));
+        }
     }
 
     private static String argumentsOf(Method method) {
